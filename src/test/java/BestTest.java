@@ -3,6 +3,7 @@ final class BestTest {
     public static void main(String[] args) {
         best();
         bestOfSix();
+        bestFromAnywhere();
         mend();
         mendOn();
         kind();
@@ -70,6 +71,22 @@ final class BestTest {
         x.sit(1, -1);
         Due.due("19: six again", x.best() > 10000 ? 1 : 0, 1);
         Due.due("19: counted", x.status(6), 2);
+    }
+
+    /** 0 beside 2 beside 1 beside 3 is the one way without a quarrel, wherever each of them sits now. */
+    private static void bestFromAnywhere() {
+        for (int code = 0; code < 256; code++) {
+            WindowChairs x = Due.with(0, 0, 0, 0);
+            for (int p = 0; p < 4; p++) {
+                x.sit(p, 3 + (code >> 2 * p & 3));
+            }
+            x.quarrel(0, 1, 1);
+            x.quarrel(0, 3, 1);
+            x.quarrel(2, 3, 1);
+            if (x.count(2) == 4) {
+                Due.due("19: from " + code, x.best(), 10014);
+            }
+        }
     }
 
     private static void mend() {
@@ -229,6 +246,7 @@ final class BestTest {
         x.set(0, 4, 9999);
         x.set(1, 4, 9998);
         Due.due("24: held", x.always(60), 0);
+        Due.due("24: of eight", Due.with(0, 0, 0, 0, 0, 0, 0, 5).always(60), 7);
         for (int far : Due.FAR) {
             Due.due("24: beyond", x.always(far), Due.BEYOND);
         }
@@ -275,6 +293,9 @@ final class BestTest {
         x.sit(2, 0);
         Due.due("25: at the end", x.beside(0), 2);
         Due.due("25: himself not", x.beside(2), 0);
+        WindowChairs full = Due.with(0, 0, 0, 0, 0, 0, 0, 0);
+        full.hours(1);
+        Due.due("25: eight sit", full.beside(7), 6);
         Due.due("25: beyond", x.beside(3), Due.BEYOND);
         Due.due("25: beyond", x.beside(-1), Due.BEYOND);
         for (int far : Due.FAR) {

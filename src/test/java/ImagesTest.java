@@ -132,6 +132,15 @@ final class ImagesTest {
         Due.due("38: bytes", x.count(1), 5);
         Due.due("38: sit", x.count(2), 2);
         Due.due("38: pairs", x.count(3), 3);
+        WindowChairs all = Due.with(0, 1, 2, 3, 4, 5, 0, 1);
+        all.hours(1);
+        for (int p = 0; p < 8; p++) {
+            for (int q = 0; q < p; q++) {
+                all.quarrel(p, q, 1);
+            }
+        }
+        Due.due("38: all sit", all.count(2), 8);
+        Due.due("38: all pairs", all.count(3), 28);
         Due.due("38: beyond", x.count(-1), Due.BEYOND);
         Due.due("38: beyond", x.count(4), Due.BEYOND);
         for (int far : Due.FAR) {

@@ -136,6 +136,10 @@ final class TextTest {
         fault("guests", 0);
         fault("gues", 0);
         fault("Guest", 0);
+        fault("buest", 0);
+        fault("guess", 0);
+        fault("bold", 0);
+        fault("years 3", 0);
         fault("guest;", 6);
         fault("guest ; ", 8);
         fault("guest;;guest", 6);
