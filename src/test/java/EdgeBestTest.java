@@ -5,6 +5,7 @@ final class EdgeBestTest {
         bestOfSix();
         bestOfMore();
         bestAmongThoseChairs();
+        bestOfThoseThatSit();
         mendHours();
         mendNone();
         mendMoreThanAsItIs();
@@ -52,7 +53,13 @@ final class EdgeBestTest {
             int many = n;
             Edge.asked("19: " + n + " sit", () -> sitting(many), x -> x.best(), 10000 + 2 * n + 2 * (n - 1));
         }
-        // Each quarrels with all but the next in the row 2 4 6 3 5 7: only so does nobody mind his neighbour.
+        for (int code = 0; code < 720; code++) {
+            Due.due("19: one way of 720, or its mirror, from " + code, oneWay(code).best(), 10022);
+        }
+    }
+
+    /** Six, each of whom quarrels with all but the next in the row 2 4 6 3 5 7; they sit in one of the 720 ways. */
+    private static WindowChairs oneWay(int code) {
         int[] row = {2, 4, 6, 3, 5, 7};
         WindowChairs x = sitting(6);
         for (int i = 0; i < 6; i++) {
@@ -60,7 +67,15 @@ final class EdgeBestTest {
                 x.quarrel(row[i], row[j], 1);
             }
         }
-        Due.due("19: one way of 720, or its mirror", x.best(), 10022);
+        int left = code;
+        for (int i = 5; i > 0; i--) {
+            int j = left % (i + 1);
+            left /= i + 1;
+            if (i != j) {
+                x.change(2 + i, 2 + j);
+            }
+        }
+        return x;
     }
 
     private static void bestOfMore() {
@@ -78,6 +93,17 @@ final class EdgeBestTest {
         x.sit(1, 0);
         x.sit(0, 7);
         Due.due("19: the first and the last", x.best(), 10000 + 14 - 1);
+    }
+
+    private static void bestOfThoseThatSit() {
+        WindowChairs x = Due.with(2, 0, 0);
+        x.sit(1, 3);
+        x.sit(2, 4);
+        Due.due("19: a talker, who stands, would sit better", x.best(), 10006);
+        x.sit(0, 5);
+        Due.due("19: three sit, the talker between", x.best(), 10000 + 2 + 2 + 5 + 1 + 1 + 4);
+        x.sit(0, -1);
+        Due.due("19: it stands again", x.best(), 10006);
     }
 
     /** Made up, 0 moves beside 1 in the sun; else they stay apart. At hour 5: on 30 hours it has moved so, on 29 not yet. */

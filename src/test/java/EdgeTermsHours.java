@@ -261,14 +261,16 @@ final class EdgeTermsHours {
     private static void onChangesNothing() {
         Edge.asked("on: 60 hours", Edge::some, x -> x.on(0, 60, 1) * 0, 0);
         Edge.asked("on: 60 hours, full", Edge::full, x -> x.peace(60) * 0, 0);
-        WindowChairs x = Edge.some();
-        WindowChairs y = Edge.some();
         for (int n = 0; n <= 60; n++) {
+            WindowChairs x = Edge.some();
+            WindowChairs y = Edge.some();
+            if (n > 0) {
+                y.hours(n);
+            }
             for (int p = 0; p < 4; p++) {
                 Due.due("on: " + n, x.on(p, n, 0) * 100000 + x.on(p, n, 1), y.of(p, 5) * 100000 + y.of(p, 4));
             }
             Due.due("on: " + n, x.peace(n), y.now(4));
-            y.hours(1);
         }
     }
 

@@ -42,27 +42,27 @@ final class EdgeTermsTest {
     }
 
     private static void quotientsAreCut() {
-        WindowChairs x = Due.with(1, 4, 3, 5);
-        for (int p = 0; p < 2; p++) {
-            x.set(p, 2, 5);
-        }
         for (int y = 0; y < 100; y++) {
+            WindowChairs x = Due.with(1, 4);
+            x.set(0, 2, 5);
+            x.set(1, 2, 5);
             x.set(0, 1, y);
             x.set(1, 1, y);
             Due.due("terms: a fourth of " + y, x.well(0, 5), 1002 + (y - y % 4) / 4);
             Due.due("terms: a fourth of " + y + ", queen", x.well(1, 5), 1012 + (y - y % 4) / 4);
             Due.due("terms: a tenth of " + y, x.of(0, 6), 8 + (y - y % 10) / 10);
         }
+        WindowChairs x = Due.with(3, 5);
         x.chair(5, 1, 0);
         for (int v = 0; v <= 20; v++) {
             x.chair(5, 0, v);
-            Due.due("terms: half of " + v, x.well(2, 5), 1000 + (v - v % 2) / 2);
-            Due.due("terms: half of " + v + ", sleeper", x.well(3, 5), 1000 + (v - v % 2) / 2);
+            Due.due("terms: half of " + v, x.well(0, 5), 1000 + (v - v % 2) / 2);
+            Due.due("terms: half of " + v + ", sleeper", x.well(1, 5), 1000 + (v - v % 2) / 2);
         }
         // Half of 1, less 18: what is cut is the half, not the difference.
         x.chair(5, 0, 1);
         x.chair(5, 1, 9);
-        Due.due("terms: half of 1, less twice 9", x.well(2, 5), 982);
+        Due.due("terms: half of 1, less twice 9", x.well(0, 5), 982);
     }
 
     private static void setsAreToldByBits() {

@@ -12,6 +12,7 @@ final class EdgeTextTest {
         blanksMayStandBetween();
         textOfItems();
         names();
+        everyLetter();
         years();
         claims();
         in();
@@ -188,6 +189,19 @@ final class EdgeTextTest {
         String[] none = {"chairs", "chai", "quarrels", "quarre", "peaces", "peac", "years", "claims", "in", "view", "draught", "x", "room"};
         for (String word : none) {
             items(word + " 0 1", -1);
+        }
+    }
+
+    /** A WORD in which one letter is another one is another WORD. */
+    private static void everyLetter() {
+        String[] texts = {"guest", "old", "talker", "deaf", "queen", "sleeper", "chair", "quarrel", "peace", "years", "claims", "in", "view",
+            "draught"};
+        String[] before = {"", "", "", "", "", "", "", "", "", "old ", "old ", "old ", "chair 1 ", "chair 1 "};
+        for (int w = 0; w < texts.length; w++) {
+            for (int i = 0; i < texts[w].length(); i++) {
+                String other = texts[w].substring(0, i) + "x" + texts[w].substring(i + 1);
+                items(before[w] + other + " 0", -1 - before[w].length());
+            }
         }
     }
 
