@@ -1,12 +1,19 @@
+import java.io.IOException;
 import java.lang.reflect.Constructor;
 import java.lang.reflect.Field;
 import java.lang.reflect.Method;
 import java.lang.reflect.Modifier;
+import java.nio.file.Files;
+import java.nio.file.Path;
+import java.util.ArrayList;
 import java.util.Arrays;
+import java.util.List;
 import java.util.Set;
 import java.util.TreeSet;
+import java.util.regex.Matcher;
+import java.util.regex.Pattern;
 
-/** The public face is the document's, and nothing else can be seen from outside. */
+/** The public face is the document's, and nothing else can be seen from outside; run from the project's root. */
 final class FaceTest {
     private static final String[] FACE = {
         "int chair(int,int,int)", "int chairOf(int,int)", "int person(int)", "int of(int,int)", "int set(int,int,int)",
@@ -18,7 +25,7 @@ final class FaceTest {
         "int book(int,int)", "int read(int,int)", "int image()", "int undo()", "int tear()", "int count(int)",
         "int status(int)"};
 
-    public static void main(String[] args) {
+    public static void main(String[] args) throws IOException {
         Set<String> seen = new TreeSet<>();
         Set<String> names = new TreeSet<>();
         for (Method m : WindowChairs.class.getDeclaredMethods()) {
@@ -38,7 +45,13 @@ final class FaceTest {
             Due.due(f + " is private", Modifier.isPrivate(f.getModifiers()) ? 1 : 0, 1);
             Due.due(f + " is final, if static", Modifier.isStatic(f.getModifiers()) && !Modifier.isFinal(f.getModifiers()) ? 0 : 1, 1);
         }
+        for (Method m : WindowChairs.class.getDeclaredMethods()) {
+            if (!Modifier.isPublic(m.getModifiers())) {
+                Due.due(m + " has a name of its own", names.contains(m.getName()) ? 0 : 1, 1);
+            }
+        }
         inside(names);
+        inOrder();
         Due.end();
     }
 
@@ -53,6 +66,37 @@ final class FaceTest {
                 Due.due(m + " has a name of its own", names.contains(m.getName()) ? 0 : 1, 1);
             }
         }
+    }
+
+    /** The document's own lines of the face and what the interface says ahead of them, against those of the file. */
+    private static void inOrder() throws IOException {
+        String doc = Files.readString(Path.of("../shared/DOC.md"));
+        String file = Files.readString(Path.of("src/main/java/WindowChairs.java"));
+        List<String> face = all("(?m)^    public (.*\\));$", doc);
+        Due.due("the face, in the document's order", all("(?m)^    public (.*\\)) \\{$", file).toString(), face.toString());
+        StringBuilder due = new StringBuilder();
+        Matcher m = Pattern.compile("(?m)^Ahead of the calls (.*) the interface says: (---- .*)\\.$").matcher(doc);
+        while (m.find()) {
+            due.append(m.group(2)).append(' ').append(all("`(\\w+)`", m.group(1))).append(' ');
+        }
+        StringBuilder says = new StringBuilder();
+        for (String part : file.split("(?m)^    // (?=---- )")) {
+            List<String> calls = all("(?m)^    public \\w+ (\\w+)\\(.*\\{$", part);
+            if (part.startsWith("----") && !calls.isEmpty()) {
+                says.append(part.lines().findFirst().get()).append(' ').append(calls).append(' ');
+            }
+        }
+        Due.due("what the interface says ahead of calls", says.toString(), due.toString());
+        Due.due("seven of them", says.toString().split("----").length - 1, 7);
+    }
+
+    private static List<String> all(String pattern, String text) {
+        List<String> found = new ArrayList<>();
+        Matcher m = Pattern.compile(pattern).matcher(text);
+        while (m.find()) {
+            found.add(m.group(1));
+        }
+        return found;
     }
 
     private static String told(Method m) {

@@ -13,6 +13,8 @@ final class LanguageTest {
         "->", "::", "Exact\\b", "\\bvar\\b", "\\bnew\\s+\\w+\\s*\\([^)]*\\)\\s*\\{", "\\bSystem\\.(?!arraycopy\\b)", "\\bThread\\b",
         "\\bRandom\\b", "\\bObject\\b", "\\bstatic\\s*\\{", "\\bhashCode\\b", "\\btoString\\b"};
 
+    private static final List<String> LIBRARY = List.of("Math.min", "Math.max", "Integer.bitCount", "Arrays.fill", "System.arraycopy");
+
     public static void main(String[] args) throws IOException {
         String all = Files.readString(FILE);
         String code = all.replaceAll("(?s)/\\*.*?\\*/", "").replaceAll("//[^\n]*", "").replaceAll("\"[^\"\n]*\"", "\"\"");
@@ -24,6 +26,10 @@ final class LanguageTest {
         while (imports.find()) {
             Due.due("rule 4: import " + imports.group(1), List.of("java.util.Arrays", "java.util.ArrayList", "java.util.List")
                 .contains(imports.group(1)) ? 1 : 0, 1);
+        }
+        Matcher library = Pattern.compile("\\b(Math|Integer|Long|Arrays|System|String|StringBuilder)\\.(\\w+)").matcher(code);
+        while (library.find()) {
+            Due.due("rule 4: " + library.group(), LIBRARY.contains(library.group()) ? 1 : 0, 1);
         }
         Due.due("rule 3: signs", all.chars().allMatch(c -> c < 128) ? 1 : 0, 1);
         methods(code);
@@ -38,6 +44,9 @@ final class LanguageTest {
             seen++;
             Due.due("rule 11: lines of " + m.group(2), m.group().lines().count() <= 60 ? 1 : 0, 1);
             Due.due("rule 11: parameters of " + m.group(2), m.group(3).split(",").length <= 7 ? 1 : 0, 1);
+            // More than rule 12 asks for: this class makes all that it needs with the object.
+            boolean isConstructor = Character.isUpperCase(m.group(2).charAt(0));
+            Due.due("rule 12: what " + m.group(2) + " makes", isConstructor || !m.group().matches("(?s).*\\bnew\\b.*") ? 1 : 0, 1);
         }
         Due.due("methods seen", seen > 60 ? 1 : 0, 1);
     }

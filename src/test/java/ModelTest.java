@@ -1,14 +1,18 @@
 import java.util.Random;
 
-/** Long runs of calls, made by fixed seeds, on the class and on the model of it: every answer must be the same. */
+/** Runs of calls, made by fixed seeds, on the class and on the model of it: every answer must be the same. */
 final class ModelTest {
-    private static final int RUNS = 260;
-    private static final int CALLS = 400;
+    private static final int RUNS = 700;
+    // What an object answers after its 512th call is free, so a run ends before it.
+    private static final int CALLS = 512;
+    // A text that fills THE TAPE by fours, and what stands around it; no step takes more.
+    private static final int CALLS_OF_A_STEP = 34;
 
     private final Random random;
     private final WindowChairs x = new WindowChairs();
     private final Model m = new Model();
     private String pending = "";
+    private int calls = 0;
 
     private ModelTest(long seed) {
         random = new Random(seed);
@@ -16,17 +20,40 @@ final class ModelTest {
 
     public static void main(String[] args) {
         int runs = args.length > 0 ? Integer.parseInt(args[0]) : RUNS;
-        for (int seed = 0; seed < runs; seed++) {
-            ModelTest run = new ModelTest(seed);
-            for (int i = 0; i < CALLS; i++) {
-                run.step(seed);
+        for (int seed = 0; seed < runs; seed += 2) {
+            // Two at a time, by turns: no object may know of another one.
+            ModelTest one = new ModelTest(seed);
+            ModelTest other = new ModelTest(seed + 1);
+            one.people(seed % 9);
+            while (one.hasCallsLeft() || other.hasCallsLeft()) {
+                one.stepIfLeft(seed);
+                other.stepIfLeft(seed + 1);
             }
         }
         Due.end();
     }
 
+    private boolean hasCallsLeft() {
+        return calls + CALLS_OF_A_STEP <= CALLS;
+    }
+
+    private void stepIfLeft(long seed) {
+        if (hasCallsLeft()) {
+            step(seed);
+        }
+    }
+
     private void due(String call, long got, long want) {
+        calls++;
         Due.due(call, got, want);
+    }
+
+    /** So that not all runs begin with few. */
+    private void people(int n) {
+        for (int p = 0; p < n; p++) {
+            int k = random.nextInt(6);
+            due("person " + k, x.person(k), m.act(() -> m.person(k)));
+        }
     }
 
     /** Mostly a number of a range, now and then one off it or far from it. */
@@ -145,12 +172,22 @@ final class ModelTest {
         if (random.nextInt(6) > 0) {
             due(at + "wipe", x.wipe(), m.act(() -> m.wipe()));
             pending = text();
-            for (int i = 0; i < pending.length(); i++) {
-                char b = pending.charAt(i);
-                due(at + "feed", x.feed(b, 1), m.act(() -> m.feed(b, 1)));
-            }
+            feedAll(at);
         }
         due(at + "room '" + pending + "'", x.room(), m.act(() -> m.room()));
+    }
+
+    private void feedAll(String at) {
+        // Beyond 120 bytes THE TAPE is FULL; one refused feed tells as much as many.
+        for (int i = 0; i < Math.min(pending.length(), 124); i += 4) {
+            int n = Math.min(4, pending.length() - i);
+            int bytes = random.nextInt();
+            for (int b = 0; b < n; b++) {
+                bytes = bytes << 8 | pending.charAt(i + b);
+            }
+            int fed = bytes;
+            due(at + "feed", x.feed(fed, n), m.act(() -> m.feed(fed, n)));
+        }
     }
 
     private String text() {
