@@ -305,7 +305,7 @@ public final class WindowChairs {
             return finding(SIZE);
         }
         ahead.become(here);
-        return PEACE_BASE + mostPeace(0, n);
+        return PEACE_BASE + mostPeace(ahead, sitting, 0, n);
     }
 
     public int mend(int n) {
@@ -674,16 +674,16 @@ public final class WindowChairs {
         return false;
     }
 
-    /** The most PEACE over all ways in which those sitting from one on can change, ahead. */
-    private int mostPeace(int from, int n) {
+    /** The most PEACE over all ways in which the first n of who, from one on, can change; all sit as before then. */
+    private static int mostPeace(Room room, int[] who, int from, int n) {
         if (from >= n - 1 || from >= BEST_MOST) {
-            return ahead.together();
+            return room.together();
         }
-        int most = mostPeace(from + 1, n);
+        int most = mostPeace(room, who, from + 1, n);
         for (int i = from + 1; i < n; i++) {
-            ahead.swap(sitting[from], sitting[i]);
-            most = Math.max(most, mostPeace(from + 1, n));
-            ahead.swap(sitting[from], sitting[i]);
+            room.swap(who[from], who[i]);
+            most = Math.max(most, mostPeace(room, who, from + 1, n));
+            room.swap(who[from], who[i]);
         }
         return most;
     }
